@@ -268,6 +268,7 @@ public final class PromiseTest {
         due("9 span over, standby", x.kind(0, 2), 3);
         x.later(11);
         due("9 seldom ahead of standby", x.kind(0, 2), 2);
+        due("9 seldom, not by the other one", x.kind(1, 0), 0);
         x.use(0, 0, 0);
         due("9 used ahead of seldom", x.kind(0, 0), 1);
         x.change(0, 1, 0);
@@ -483,6 +484,9 @@ public final class PromiseTest {
         due("15 none of these are told", x.role(0), -9);
         due("15 four are enough", x.roles(4), 2);
 
+        rolesAre("15 the first of two rows with the fewest", people(4, 3, 6), 4, 4, 3, 2);
+        rolesAre("15 a longer search", people(31, 27, 24, 22, 28), 14, 27, 20, 24, 18);
+
         LeastRights y = new LeastRights();
         y.standby(4095);
         for (int p = 0; p < 10; p++) y.person(0, 4095 & ~(1 << p));
@@ -597,6 +601,9 @@ public final class PromiseTest {
         due("21 one pair", x.count(5), 1);
         due("21 another", x.ban(3, 2, true), 0);
         due("21 two pairs", x.count(5), 2);
+        due("21 the same right with a third", x.ban(2, 11, true), 0);
+        due("21 the first pair stays", x.ban(11, 0, true), 1);
+        due("21 the third no more", x.ban(2, 11, false), 1);
         due("21 no more, the other way round", x.ban(11, 0, false), 1);
         due("21 was not", x.ban(0, 11, false), 0);
         due("21 one is left", x.count(5), 1);
