@@ -91,8 +91,11 @@ final class RoleEdges extends Edges {
         is("ten are", x.roles(10), 10);
         is("eleven are", x.roles(11), 10);
         LeastRights y = keepers(3, 6, 7);
-        is("three are not, though a row is found by then", y.roles(3), SPENT);
-        is("four are", y.roles(4), 2);
+        for (int n = 1; n <= 3; n++) {
+            is(n + " of four are not, though a row is found by the third", y.roles(n), SPENT);
+            is("four are, whatever was left by a spent one", y.roles(4), 2);
+            is("tries()", y.tries(), 4);
+        }
         LeastRights z = keepers(1, 2);
         is("one is not", z.roles(1), SPENT);
         is("two are", z.roles(2), 2);
