@@ -114,7 +114,7 @@ public final class LeastRights {
 
     public int strike(int p) {
         if (noPerson(p)) return BAD;
-        return folk.strikeAllBut(p, keptOf(p), days.present);
+        return folk.leave(p, keptOf(p), days.present);
     }
 
     public int ask(int p, int right) {
@@ -262,8 +262,7 @@ public final class LeastRights {
         if (!draft.made || draft.size != folk.size) return STATE;
         int gone = 0;
         for (int p = 0; p < folk.size; p++) {
-            gone += folk.strikeAllBut(p, draft.rights[p], days.present);
-            folk.give(p, draft.rights[p]);
+            gone += folk.leave(p, draft.rights[p], days.present);
         }
         return gone;
     }
@@ -454,7 +453,7 @@ public final class LeastRights {
         }
     }
 
-    /** The people. A right that somebody has is never one that is struck. */
+    /** The people. A right that is struck is so until it is asked for or given by hand. */
     private static final class Folk {
         private int size = 0;
         private final int[] marks = new int[MOST_PEOPLE];
@@ -486,9 +485,13 @@ public final class LeastRights {
             return before;
         }
 
-        int strikeAllBut(int p, int staying, int day) {
-            int going = rights[p] & ~staying;
-            rights[p] &= staying;
+        /**
+         * The person is left with these rights, and what goes is struck: how many go. What a plan
+         * brings back stays struck, as no sentence of the document ends that here.
+         */
+        int leave(int p, int bits, int day) {
+            int going = rights[p] & ~bits;
+            rights[p] = bits;
             struck[p] |= going;
             for (int r = 0; r < RIGHTS; r++) {
                 if ((going & 1 << r) != 0) struckOn[p * RIGHTS + r] = day;
@@ -500,7 +503,8 @@ public final class LeastRights {
             int bit = 1 << right;
             if ((rights[p] & bit) != 0) return 2;
             if ((struck[p] & bit) == 0 || !days.isInGrace(struckOn[p * RIGHTS + right])) return 0;
-            give(p, rights[p] | bit);
+            rights[p] |= bit;
+            struck[p] &= ~bit;
             return 1;
         }
 

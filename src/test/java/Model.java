@@ -437,7 +437,7 @@ final class Model {
         int gone = 0;
         for (int p = 0; p < people.size(); p++) {
             gone += reduce(p, planSets.get(p));
-            setRights(people.get(p), planSets.get(p));
+            people.get(p).rights = new TreeSet<>(planSets.get(p));
         }
         return gone;
     }

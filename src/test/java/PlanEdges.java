@@ -24,6 +24,8 @@ final class PlanEdges extends Edges {
         applyNothingAndAll();
         applyStrikesNow();
         applyGives();
+        applyLeavesStruck();
+        askEndsOneAlone();
         sheetNumbers();
         sheetSizes();
         sheetIsZero();
@@ -336,7 +338,41 @@ final class PlanEdges extends Edges {
         is("told(0, 1)", x.told(0, 1), 3);
         is("told(1, 1)", x.told(1, 1), 4);
         is("told(0, 3)", x.told(0, 3), 8);
-        is("what one has is not struck", x.told(1, 3), 0);
+    }
+
+    /** Asking, change() and load() end it, by their own words; those of apply() do not. */
+    private void applyLeavesStruck() {
+        says(30, "(what goes is STRUCK now)");
+        LeastRights x = people(6);
+        x.rule(1, 999, 5);
+        x.plan(false);
+        x.strike(0);
+        x.later(3);
+        is("none go, two come", x.apply(), 0);
+        is("they are struck still", x.told(0, 3), 6);
+        x.takeOut(0, 1);
+        is("one of them goes again", x.apply(), 1);
+        x.change(0, 1, 0);
+        x.later(3);
+        is("struck anew, three days ago", x.ask(0, 1), 1);
+        is("went by change(), struck six days ago", x.ask(0, 2), 0);
+    }
+
+    private void askEndsOneAlone() {
+        says(12, "comes back, if it is STRUCK since g DAYS or less (g: THE GRACE, 0 .. 999; 60 at first), "
+            + "and is STRUCK no more then.");
+        LeastRights x = people(6);
+        x.plan(false);
+        x.strike(0);
+        x.apply();
+        x.takeOut(0, 1);
+        x.apply();
+        is("has it", x.ask(0, 2), 2);
+        is("both are struck", x.told(0, 3), 6);
+        is("comes back", x.ask(0, 1), 1);
+        is("the other one is struck still", x.told(0, 3), 4);
+        x.change(0, 1, 6);
+        is("given by hand, though one had it", x.told(0, 3), 0);
     }
 
     private void sheetNumbers() {

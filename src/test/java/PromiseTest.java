@@ -818,7 +818,7 @@ public final class PromiseTest {
         due("30 struck by hand", x.told(1, 3), 8);
         due("30 what came back goes again", x.apply(), 1);
         due("30 what the plan gives is had", x.told(1, 1), 8);
-        due("30 and struck no more", x.told(1, 3), 0);
+        due("30 and struck still", x.told(1, 3), 8);
         x.person(0, 1);
         due("30 one came since", x.apply(), -4);
         due("30 refused changes nothing", x.told(0, 1), 5);
